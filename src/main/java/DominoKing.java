@@ -34,7 +34,7 @@ public final class DominoKing {
     private static final int BLANK = 5;
     private static final int KINDS = 6;
     /** The kind above each kind; the top stands above itself. */
-    private static final int[] ABOVE = {0, 0, 0, IVORY, CHALK, 0};
+    private static final int[] ABOVE = {0, 0, 0, 1, 2, 0};
 
     private static final int KEYS = 3;
     private static final int KEY_DARK = 0;

@@ -210,6 +210,9 @@ public final class PromisesTest {
         due("turns", x.turns(0, 5), 2);
         due("dark", x.off(0, 0, 0), 100);
         due("turns", x.turns(0, 5), 5);
+        due("turns", x.turns(0, 0), 5);
+        due("dark", x.off(0, 0, 0), 80);
+        due("turns", x.turns(0, 5), 0);
         due("kind", x.told(0, 0), 5);
         due("bad", x.turns(0, 6), BAD);
         due("bad", x.turns(0, -1), BAD);
@@ -429,6 +432,11 @@ public final class PromisesTest {
         due("turned", x.king(1), 0);
         x.put(0, 11, 1);
         due("set", x.king(3), 2048 + 14);
+        x.box(0);
+        x.put(2, 10, 0);
+        x.put(1, 9, 0);
+        x.put(3, 11, 0);
+        due("the last row", x.king(1), 2);
         due("bad", x.king(4), BAD);
         due("bad", x.king(-1), BAD);
     }
@@ -470,6 +478,13 @@ public final class PromisesTest {
         x.put(1, 2, 0);
         due("it stays on the third", x.best(2, 0), 90);
         due("it is on the first three", x.best(3, 0), 0);
+        x.box(1);
+        for (int i = 0; i < 4; i++) {
+            x.stone(5, 0, 0);
+        }
+        due("six", x.best(6, 0), 0);
+        due("six", x.best(6, 1), 1);
+        x.put(1, 2, 0);
         due("nothing changes", x.at(2), 1);
         int[][] bad = {{0, 0}, {7, 0}, {-1, 0}, {1, 2}, {1, -1}, {MOST, 0}};
         for (int[] b : bad) {
@@ -490,6 +505,10 @@ public final class PromisesTest {
         x.put(1, 3, 0);
         due("of all, of several the least", x.bestFor(11, 0), 1);
         due("off", x.bestFor(11, 1), 2);
+        due("the first one", x.bestFor(0, 0), 1);
+        x.want(0, 0);
+        x.want(1, 0);
+        due("the first one", x.bestFor(0, 0), 0);
         due("bad", x.bestFor(12, 0), BAD);
         due("bad", x.bestFor(-1, 0), BAD);
         due("bad", x.bestFor(0, 2), BAD);
@@ -537,6 +556,27 @@ public final class PromisesTest {
         due("each turned as it is", x.swap(), 1);
         x.put(0, 0, 0);
         due("each turned as it is", x.swap(), NONE);
+        x.turns(0, 5);
+        x.turns(1, 5);
+        x.want(0, 0);
+        x.want(2, 1);
+        due("as much", x.swap(), NONE);
+        lessByOne();
+    }
+
+    private static void lessByOne() {
+        DominoKing x = new DominoKing();
+        x.stone(0, 0, 1);
+        x.stone(5, 0, 0);
+        for (int cell = 0; cell < 24; cell++) {
+            x.want(cell, 0);
+        }
+        textOf(x, "dark r*s");
+        x.put(0, 3, 0);
+        x.put(1, 0, 0);
+        due("less by one", x.swap(), 1);
+        x.put(0, 1, 0);
+        due("as much", x.swap(), NONE);
     }
 
     private static void knocked() {
@@ -578,6 +618,14 @@ public final class PromisesTest {
         x.put(2, 6, 0);
         due("the place", x.push(0), 5);
         due("how many", x.push(1), 2);
+        x.put(1, 1, 0);
+        x.put(2, 2, 0);
+        due("the second", x.push(0), 1);
+        x.put(1, 0, 0);
+        x.put(2, 1, 0);
+        due("the first", x.push(0), 0);
+        x.put(1, 5, 0);
+        x.put(2, 6, 0);
         x.put(3, 10, 0);
         due("of several the least", x.push(0), 5);
         x.put(1, 9, 0);
@@ -680,6 +728,14 @@ public final class PromisesTest {
         x.mark(0, 3, 13);
         due("row", x.seen(0, 0), 2);
         due("signs left out", x.seen(0, 1), 3);
+        x.put(0, 3, 0);
+        x.sheet(3, 0, 2);
+        x.mark(3, 0, 16);
+        x.mark(3, 1, 30);
+        due("row 1", x.seen(3, 0), 1);
+        due("the first place counts", x.seen(3, 1), 1);
+        x.put(0, 0, 0);
+        due("row 0", x.seen(3, 0), 0);
         x.sheet(1, 1, 6);
         for (int i = 0; i < 4; i++) {
             x.mark(1, i, NONE);
@@ -763,6 +819,9 @@ public final class PromisesTest {
         due("key", faultOf("  fe 1"), -102);
         due("key", faultOf("12 1"), -100);
         due("key", faultOf("Fee 1"), -100);
+        due("key", faultOf("xee 1"), -100);
+        due("key", faultOf("finz 1"), -100);
+        due("z is a letter", faultOf("fee pz"), -104);
         due("key alone", faultOf("fee"), -103);
         due("key and blanks", faultOf("fee  "), -105);
         due("a blank is needed", faultOf("fee1"), -103);
@@ -811,6 +870,9 @@ public final class PromisesTest {
         due("towards 0", feeOf("(0-7)/2"), -3);
         due("by 0", feeOf("7/0+1"), 1);
         due("brackets", feeOf("(1+2)*3"), 9);
+        due("brackets", feeOf("(0|3)+1"), 2);
+        due("brackets", feeOf("2*(1&3)"), 2);
+        due("brackets", feeOf("9-(3-2)"), 8);
         due("test", feeOf("2<3"), 1);
         due("test", feeOf("3<3"), 0);
         due("test", feeOf("3>2"), 1);
