@@ -26,6 +26,11 @@ public final class LanguageTest {
         "throw", "throws", "try", "catch", "finally", "synchronized", "assert", "volatile", "native", "new Object",
         "->", "::", "hashCode", "Exact", "nanoTime", "currentTimeMillis", "Random", "Thread", "System.out"};
 
+    /** What rule 4 leaves of the library, as far as the class takes from it. */
+    private static final String[] LIBRARY = {
+        "Math.abs", "Math.max", "Math.min", "Integer.bitCount", "Integer.compare", "System.arraycopy",
+        "Arrays.copyOf", "Arrays.copyOfRange", "Arrays.fill"};
+
     private static int wrong = 0;
 
     private static void due(String what, Object got, Object want) {
@@ -89,6 +94,34 @@ public final class LanguageTest {
         due("constructors", makers, List.of("public 0"));
     }
 
+    private static void theStaticFields() {
+        List<Class<?>> all = new ArrayList<>(Arrays.asList(DominoKing.class.getDeclaredClasses()));
+        all.add(DominoKing.class);
+        List<Class<?>> types = List.of(int.class, long.class, boolean.class, char.class, String.class,
+            int[].class, long[].class, char[].class, byte[].class);
+        for (Class<?> owner : all) {
+            int fields = 0;
+            for (Field f : owner.getDeclaredFields()) {
+                if (Modifier.isStatic(f.getModifiers())) {
+                    due(f + " is final", Modifier.isFinal(f.getModifiers()), true);
+                    due(f + " is of a type that a constant may have", types.contains(f.getType()), true);
+                } else {
+                    fields++;
+                }
+            }
+            due(owner + " has many fields", fields > 20, false);
+        }
+    }
+
+    private static void theLibrary(String code) {
+        Matcher m = Pattern.compile("\\b(Math|Integer|Long|System|Arrays|String|List|Character|Short)\\.\\w+").matcher(code);
+        while (m.find()) {
+            due(m.group() + " is in the library", Arrays.asList(LIBRARY).contains(m.group()), true);
+        }
+        Matcher join = Pattern.compile("\"\\s*\\+|\\+\\s*\"").matcher(code);
+        due("texts joined by +", join.find(), false);
+    }
+
     private static void theWords() throws Exception {
         String source = Files.readString(Path.of("src/main/java/DominoKing.java"), StandardCharsets.ISO_8859_1);
         String code = source.replaceAll("(?s)/\\*.*?\\*/", "").replaceAll("//[^\n]*", "").replaceAll("\"[^\"\n]*\"", "\"\"");
@@ -104,6 +137,7 @@ public final class LanguageTest {
         }
         due("a package", code.contains("package "), false);
         due("bytes above 127", source.chars().anyMatch(c -> c > 127), false);
+        theLibrary(code);
         methodsAreShort(source);
     }
 
@@ -125,6 +159,7 @@ public final class LanguageTest {
     public static void main(String[] args) throws Exception {
         theFace();
         theFields();
+        theStaticFields();
         theWords();
         System.out.println(wrong == 0 ? "the face and the language are as due" : wrong + " things are not as due");
         if (wrong != 0) {
