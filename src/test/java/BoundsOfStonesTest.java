@@ -359,6 +359,46 @@ public final class BoundsOfStonesTest {
         Trial.due(1, y, "king", 1);
     }
 
+    private static void strewnStones() {
+        Trial.on("part 1, PICTURE and MATCHES of STONES that lie anywhere, TURNED or not each by itself");
+        for (int bits : new int[] {0, 4095, 1365, 2730, 77, 3001}) {
+            DominoKing x = Trial.strewn(11, bits);
+            int picture = 198;
+            for (int i = 0; i < 11; i++) {
+                for (int half = 0; half < 2; half++) {
+                    int want = (17 * (2 * Trial.strewnTo(i) + half) + bits) % 100;
+                    picture += Math.abs(15 * Trial.spots(x, i, half) - want);
+                }
+            }
+            Trial.due(picture, x, "king", 0);
+            int matches = 0;
+            for (int place = 0; place < 11; place++) {
+                int one = x.at(place);
+                int other = x.at(place + 1);
+                if (place % 3 < 2 && one != NONE && other != NONE && Trial.spots(x, one, 1) == Trial.spots(x, other, 0)) {
+                    matches++;
+                }
+            }
+            Trial.due(matches, x, "king", 1);
+        }
+    }
+
+    private static void oneMoreChangesNoOther() {
+        Trial.on("promise 2, one more STONE: no other one changes; promise 11 likewise");
+        for (int kind = 0; kind < 6; kind++) {
+            DominoKing x = Trial.strewn(7, 127);
+            x.stone(kind, kind, 6 - kind);
+            x.deal(1);
+            for (int i = 0; i < 7; i++) {
+                Trial.due(0, x, "told", i, 0);
+                Trial.due((i * i + 127) % 7, x, "told", i, 1);
+                Trial.due((3 * i + 1) % 7, x, "told", i, 2);
+                Trial.due(Trial.strewnTo(i), x, "told", i, 3);
+                Trial.due(1, x, "told", i, 4);
+            }
+        }
+    }
+
     private static void putsAndBoxes() {
         Trial.on("promise 7, where it was AT; onto its own PLACE; away from another");
         DominoKing x = new DominoKing();
@@ -564,6 +604,22 @@ public final class BoundsOfStonesTest {
         turnedAlone(x, -1);
     }
 
+    private static void theWindOnStrewnStones() {
+        Trial.on("part 2, the STONE at the PLACE is turned, not the PLACE's number");
+        for (int place = 0; place < 12; place++) {
+            for (int bits : new int[] {0, 4095, 1365}) {
+                DominoKing x = Trial.strewn(12, bits);
+                x.wind(1);
+                x.seed(Trial.zOfDay(3, 0, place));
+                x.days(1);
+                for (int i = 0; i < 12; i++) {
+                    int was = bits >> i & 1;
+                    Trial.due(Trial.strewnTo(i) == place ? 1 - was : was, x, "told", i, 4);
+                }
+            }
+        }
+    }
+
     private static void theWindAndTheBox() {
         Trial.on("part 2, the STONE at the PLACE, if there is one: the draw is drawn all the same");
         int z = Trial.zOfDay(0, 0, 4);
@@ -649,6 +705,8 @@ public final class BoundsOfStonesTest {
         offs();
         pictures();
         matches();
+        strewnStones();
+        oneMoreChangesNoOther();
         putsAndBoxes();
         draws();
         deals();
@@ -656,6 +714,7 @@ public final class BoundsOfStonesTest {
         theStone();
         theTurn();
         theWind();
+        theWindOnStrewnStones();
         theWindAndTheBox();
         theDays();
         kingAndAt();

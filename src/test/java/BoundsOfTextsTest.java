@@ -112,6 +112,11 @@ public final class BoundsOfTextsTest {
         Trial.due("a fault", Trial.textOf(x, "fee ?"), -104);
         Trial.due("the end", Trial.textOf(x, "fee"), -103);
         Trial.due(14, x, "count", 4);
+        for (int text : new int[] {-1, 14, 15, 16}) {
+            Trial.due(Trial.BAD, x, "textTold", text, 0);
+            Trial.due(Trial.BAD, x, "textTold", text, 1);
+        }
+        Trial.due(1, x, "textTold", 13, 0);
         Trial.due(12, x, "why", 0);
         Trial.due(13, x, "why", 1);
         Trial.due(11, x, "why", 2);
@@ -415,6 +420,35 @@ public final class BoundsOfTextsTest {
         stands("fee !!!!!!!!(1)+!!!!!!!!(1)");
         stands("fee !!!!!!!(!1+!1)*!1");
         stands("fee (!!!!!!!!1)+!1");
+        for (String sign : new String[] {"|", "&", "<", "=", ">", "+", "-", "*", "/"}) {
+            stands("fee (1" + sign + "!!!!!!!!1)");
+            stands("fee ((((((((1" + sign + "!!!!!!!!1))))))))");
+            fault(15, "fee (1" + sign + "!!!!!!!!!1)");
+            fault(15, "fee !!!!(1" + sign + "!!!!!1)");
+            stands("fee !!!!(1" + sign + "!!!!1)");
+            stands("fee !!!!!!!!1" + sign + "((((((((1))))))))");
+            fault(22, "fee !!!!!!!!1" + sign + "(((((((((1)))))))))");
+            fault(14, "fee ((((((((1" + sign + "(1)))))))))");
+        }
+    }
+
+    private static void theFirstFault() {
+        Trial.on("part 4, FAULT: the first one, whatever comes behind it");
+        fault(8, "fee ((1+)");
+        fault(8, "fee ((1+))");
+        fault(8, "fee ((1+)))");
+        fault(8, "fee ((1 2)");
+        fault(7, "fee ((1p)");
+        fault(6, "fee (()");
+        fault(7, "fee (((");
+        fault(5, "fee (+");
+        fault(6, "fee (!)");
+        fault(6, "fee (!)+(");
+        fault(4, "fee q+q+q");
+        fault(4, "fee 12345+12345");
+        fault(6, "fee 1+)+(");
+        fault(9, "fee ((1)+)+)");
+        fault(0, "fees fees )");
     }
 
     private static void blanks() {
@@ -552,6 +586,7 @@ public final class BoundsOfTextsTest {
         oneTest();
         openOnes();
         openOfBoth();
+        theFirstFault();
         blanks();
         wholeTape();
         loosestFirst();

@@ -232,6 +232,52 @@ public final class BoundsOfThoughtsTest {
         Trial.due(1, crossed(new int[][] {{0, 1, 1}, {2, 3, 1}}), "swap");
     }
 
+    /** The picture of strewn stones with two of them changed, each turned as it is. */
+    private static int pictureChanged(int many, int bits, int one, int other) {
+        DominoKing x = Trial.strewn(many, bits);
+        x.box(one);
+        x.box(other);
+        x.put(one, Trial.strewnTo(other), bits >> one & 1);
+        x.put(other, Trial.strewnTo(one), bits >> other & 1);
+        return x.king(0);
+    }
+
+    private static void swapOfStrewn() {
+        Trial.on("promise 18, as if the two were laid so");
+        for (int bits : new int[] {0, 4095, 1365, 2730, 77, 3001, 512, 19, 2222, 911}) {
+            int many = 2 + bits % 11;
+            DominoKing x = Trial.strewn(many, bits);
+            int least = x.king(0);
+            int pair = NONE;
+            for (int one = 0; one < many; one++) {
+                for (int other = one + 1; other < many; other++) {
+                    int picture = pictureChanged(many, bits, one, other);
+                    if (picture < least) {
+                        least = picture;
+                        pair = 100 * one + other;
+                    }
+                }
+            }
+            Trial.due(pair, x, "swap");
+        }
+        Trial.on("promise 18, one of the two is TURNED: it stays so");
+        for (int turns = 0; turns < 4; turns++) {
+            for (int wants = 0; wants < 16; wants++) {
+                DominoKing x = new DominoKing();
+                x.stone(0, 0, 6);
+                x.stone(0, 2, 5);
+                x.put(0, 0, turns & 1);
+                x.put(1, 1, turns >> 1);
+                for (int cell = 0; cell < 4; cell++) {
+                    x.want(cell, (wants >> cell & 1) * 80);
+                }
+                int is = x.off(0, 0, turns & 1) + x.off(1, 1, turns >> 1);
+                int would = x.off(0, 1, turns & 1) + x.off(1, 0, turns >> 1);
+                Trial.due(would < is ? 1 : NONE, x, "swap");
+            }
+        }
+    }
+
     // ---- what falls
 
     private static void falls() {
@@ -603,6 +649,34 @@ public final class BoundsOfThoughtsTest {
         }
     }
 
+    private static void seenStrewn() {
+        Trial.on("promise 24, DARK as they are laid: of the STONE at the PLACE, in its row");
+        for (int bits : new int[] {0, 4095, 1365, 2730, 77}) {
+            DominoKing x = Trial.strewn(11, bits);
+            Trial.textOf(x, "dark s*9+r*r*5");
+            x.sheet(1, 0, 6);
+            int least = Integer.MAX_VALUE;
+            int which = -1;
+            for (int i = 0; i < 6; i++) {
+                x.mark(1, i, 7 * i + bits % 50);
+            }
+            for (int row = 0; row < 4; row++) {
+                int sum = 0;
+                for (int i = 0; i < 6; i++) {
+                    int stone = x.at(3 * row + i / 2);
+                    int dark = stone == NONE ? 0 : Math.min(99, 9 * Trial.spots(x, stone, i % 2) + 5 * row * row);
+                    sum += Math.abs(dark - 7 * i - bits % 50);
+                }
+                if (sum < least) {
+                    least = sum;
+                    which = row;
+                }
+            }
+            Trial.due(which, x, "seen", 1, 0);
+            Trial.due(least, x, "seen", 1, 1);
+        }
+    }
+
     private static void fees() {
         Trial.on("promise 25, without a TEXT: PICTURE; with one: p, m");
         DominoKing x = Trial.allLaid(0, 4, 4);
@@ -645,6 +719,7 @@ public final class BoundsOfThoughtsTest {
         bestFor();
         swapOfTwo();
         swapOfSeveral();
+        swapOfStrewn();
         falls();
         fallsToTheEnd();
         pushes();
@@ -656,6 +731,7 @@ public final class BoundsOfThoughtsTest {
         lostOfFew();
         seenCells();
         seenPlaces();
+        seenStrewn();
         fees();
         fines();
         Trial.end();

@@ -755,6 +755,41 @@ public final class RefusalsTest {
         }
     }
 
+    // ---- all that there can be
+
+    private static void beyondTheLast() {
+        Trial.on("part 1, STONES, 12 at most: there is no STONE 12");
+        world = RefusalsTest::full;
+        for (int v : new int[] {-1, 12, 13}) {
+            for (int what = 0; what < 7; what++) {
+                refused(BAD, "told", v, what);
+            }
+            refused(BAD, "off", v, 0, 0);
+            refused(BAD, "as", v, 0);
+            refused(BAD, "turns", v, 0);
+            refused(BAD, "put", v, 5, 0);
+            refused(BAD, "box", v);
+            refused(BAD, "fine", v);
+            refused(BAD, "lay", 0, 1, v);
+        }
+        Trial.on("part 4, TEXTS, 14 at most: there is no TEXT 14");
+        for (int v : new int[] {-1, 14, 15, 16}) {
+            refused(BAD, "textTold", v, 0);
+            refused(BAD, "textTold", v, 1);
+        }
+        Trial.on("no STONES, no TEXTS: there is no STONE 0, no TEXT 0");
+        world = DominoKing::new;
+        refused(BAD, "told", 0, 0);
+        refused(BAD, "off", 0, 0, 0);
+        refused(BAD, "as", 0, 0);
+        refused(BAD, "turns", 0, 0);
+        refused(BAD, "put", 0, 0, 0);
+        refused(BAD, "box", 0);
+        refused(BAD, "fine", 0);
+        refused(BAD, "lay", 0, 1, 0);
+        refused(BAD, "textTold", 0, 0);
+    }
+
     // ---- what is only told
 
     private static void onlyThought() {
@@ -829,6 +864,7 @@ public final class RefusalsTest {
         itemsAndRests();
         rows();
         images();
+        beyondTheLast();
         world = RefusalsTest::inUse;
         onlyThought();
         onlyAsked();

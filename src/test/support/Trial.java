@@ -141,6 +141,29 @@ final class Trial {
         return x;
     }
 
+    /** Where stone i of strewn() lies: no stone on the place of its own number but for few. */
+    static int strewnTo(int stone) {
+        return (5 * stone + 3) % 12;
+    }
+
+    /** Stones of kind 0 with lots for their spots, all over the places, turned by the bits of a number. */
+    static DominoKing strewn(int many, int bits) {
+        DominoKing x = new DominoKing();
+        for (int i = 0; i < many; i++) {
+            x.stone(0, (i * i + bits) % 7, (3 * i + 1) % 7);
+            x.put(i, strewnTo(i), bits >> i & 1);
+        }
+        for (int cell = 0; cell < 24; cell++) {
+            x.want(cell, (17 * cell + bits) % 100);
+        }
+        return x;
+    }
+
+    /** Spots of a half (0, 1) of a stone as it lies, by what is told of it. */
+    static int spots(DominoKing x, int stone, int half) {
+        return x.told(stone, half == x.told(stone, 4) ? 1 : 2);
+    }
+
     // ---- draws
 
     static int next(int z) {
