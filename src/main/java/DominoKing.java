@@ -1132,23 +1132,29 @@ public final class DominoKing {
             this.stack = new int[operands];
         }
 
+        /** The reader sees to it that the stack is never short nor full; it is looked at all the same. */
         int gives(int first, int second, int third) {
             int top = 0;
-            for (int i = 0; i < signs.length; i++) {
-                if (signs[i] == NUMBER) {
-                    stack[top] = values[i];
-                    top++;
-                } else if (signs[i] == NAME) {
-                    stack[top] = values[i] == 0 ? first : values[i] == 1 ? second : third;
-                    top++;
+            for (int i = 0; i < signs.length && i < values.length; i++) {
+                if (signs[i] == NUMBER || signs[i] == NAME) {
+                    if (top < stack.length) {
+                        stack[top] = signs[i] == NUMBER ? values[i] : named(values[i], first, second, third);
+                        top++;
+                    }
                 } else if (signs[i] == '!') {
-                    stack[top - 1] = truth(stack[top - 1] == 0);
-                } else {
+                    if (top > 0) {
+                        stack[top - 1] = truth(stack[top - 1] == 0);
+                    }
+                } else if (top > 1) {
                     top--;
                     stack[top - 1] = joined(signs[i], stack[top - 1], stack[top]);
                 }
             }
-            return stack[0];
+            return top > 0 ? stack[0] : 0;
+        }
+
+        private static int named(int name, int first, int second, int third) {
+            return name == 0 ? first : name == 1 ? second : third;
         }
 
         private static int joined(int sign, int a, int b) {

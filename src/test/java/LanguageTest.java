@@ -24,7 +24,7 @@ public final class LanguageTest {
     /** Words of rules 2, 5, 6 and 13, whole, outside of comments and texts. */
     private static final String[] WORDS = {
         "throw", "throws", "try", "catch", "finally", "synchronized", "assert", "volatile", "native", "new Object",
-        "->", "::", "hashCode", "Exact", "nanoTime", "currentTimeMillis", "Random", "Thread", "System.out"};
+        "->", "::", "hashCode", "nanoTime", "currentTimeMillis", "Random", "Thread", "System.out"};
 
     /** What rule 4 leaves of the library, as far as the class takes from it. */
     private static final String[] LIBRARY = {
@@ -135,6 +135,7 @@ public final class LanguageTest {
         while (imports.find()) {
             due("import", imports.group(), "import java.util.Arrays;");
         }
+        due("a function whose name ends in Exact", Pattern.compile("Exact\\b").matcher(code).find(), false);
         due("a package", code.contains("package "), false);
         due("bytes above 127", source.chars().anyMatch(c -> c > 127), false);
         theLibrary(code);
